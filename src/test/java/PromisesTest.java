@@ -304,6 +304,10 @@ public final class PromisesTest {
         fault("findrly 3;", 0);
         fault("finds rly 3;", 0);
         fault("fin", 0);
+        fault("mind rly 3;", 0);
+        fault("ell xxx;", 0);
+        fault("all xxxz;", 4);
+        fault("all xxxa;", 4);
         fault("Find rly 3;", 0);
         fault("find Rly 3;", 5);
         fault("find rLy 3;", 5);
@@ -341,6 +345,10 @@ public final class PromisesTest {
         due("rich on lists", x.found(0, 1, 11, 6), 5);
         due("rich on lists of yes", x.found(0, 1, 11, 7), 5);
         due("and one other", x.found(0, 1, 11, 2), 1);
+        due("three finds", habitOf(x, "find xxy 1; all rly; all pln;"), 3);
+        due("then fewer", habitOf(x, "find xxn 1;"), 1);
+        due("the third is forgotten", x.found(0, 6, 6, 4), 0);
+        due("the second too", x.found(0, 6, 6, 7), 0);
         due("an empty land", x.found(1, 50, 50, 8), 0);
         due("land -1", x.found(-1, 0, 0, 0), BAD);
         due("land 4", x.found(4, 0, 0, 0), BAD);
@@ -366,6 +374,10 @@ public final class PromisesTest {
         due("poor alone", poor.weighed(3, 4, 0, 0), 3);
         due("poor alone", poor.weighed(3, 4, 50, 1), 4);
         due("none met", poor.weighed(3, 0, 50, 1), NO);
+        PostedAsks one = settled(0, 1, 0, 0, 3);
+        due("one poor, three rich", one.weighed(0, 1, 3, 0), 3);
+        due("one poor counts", one.weighed(0, 1, 3, 1), 4);
+        due("one poor not met", one.weighed(0, 0, 3, 0), NO);
         PostedAsks rich = settled(3, 0, 0, 0, 0, 0, 0, 4);
         due("rich alone, 0", rich.weighed(3, 0, 4, 0), 0);
         due("by 1", rich.weighed(3, 0, 4, 1), 1);
@@ -387,6 +399,15 @@ public final class PromisesTest {
         due("no rich", x.mends(0, 9, 0), NONE);
         due("nobody", x.mends(0, 0, 0), NONE);
         due("an empty land", x.mends(1, 5, 5), NONE);
+        due("one person", settled(1, 0, 1).mends(1, 1, 0), 0);
+        // TRUTH 3/4; found: 1 poor of no, 3 rich, 2 of them of yes: plain 1/2; weighed 1/12 less than 2/3
+        PostedAsks below = settled(1, 1, 0, 1, 6);
+        due("habit", habitOf(below, "find rxn 1;"), 1);
+        due("both below TRUTH, weighed nearer", below.mends(1, 1, 3), 1);
+        // TRUTH 5/8; found: 2 poor of no, 2 rich of yes: plain 1/2; weighed 1/4
+        settle(below, 3, 3, 3, 0, 2);
+        due("habit", habitOf(below, "all pxn;"), 1);
+        due("both below TRUTH, plain nearer", below.mends(3, 2, 2), -1);
         // TRUTH 3/8; found: 2 poor of yes, 2 rich of no: plain 1/2; weighed 6/8
         PostedAsks y = settled(2, 3, 3, 2);
         due("habit", habitOf(y, "all pxy;"), 1);
@@ -408,6 +429,8 @@ public final class PromisesTest {
         due("just a quarter away", x.ways(4, 1, 1, 25, 0), 3);
         due("not quite", x.ways(4, 1, 1, 24, 0), 0);
         due("all drawn", x.ways(50, 17, 50, 0, 0), 1);
+        due("one of one", x.ways(1, 1, 1, 0, 0), 1);
+        due("none of one", x.ways(1, 0, 1, 0, 0), 1);
         due("nobody of yes", x.ways(50, 0, 10, 0, 0), 10272278170L);
         due("everybody", x.ways(50, 50, 10, 0, 1), 10272278170L);
         due("the most", x.ways(50, 25, 25, 100, 0), 126410606437752L);
@@ -455,6 +478,11 @@ public final class PromisesTest {
         due("c 18 in 2 of 20 ways: a tenth", x.may(20, 1, 0, 2), 18);
         due("c 2 in 2 of 20 ways", x.may(20, 1, 1, 1), 2);
         due("likeliest of all", x.may(20, 1, 1, 0), 20);
+        due("c 2 in 2 of 21 ways: too few", x.may(21, 1, 1, 1), 3);
+        due("c 0 in 5 of 5 ways", x.may(5, 1, 0, 1), 0);
+        due("just 1", x.may(50, 50, 1, 2), 1);
+        due("just 0", x.may(50, 50, 0, 2), 0);
+        due("just all", x.may(50, 50, 50, 1), 50);
         due("all drawn", x.may(9, 9, 4, 2), 4);
         due("1 of 1", x.may(1, 1, 1, 1), 1);
         due("n 0", x.may(0, 0, 0, 0), BAD);
@@ -473,6 +501,7 @@ public final class PromisesTest {
         x.rate(5, 50);
         // 8 are back, 4 of yes
         due("just", x.shadow(0, 2, 0, 0), 16);
+        due("one drawn", x.shadow(0, 1, 50, 1), 8);
         due("all", x.shadow(0, 2, 0, 1), 28);
         due("near", x.shadow(0, 2, 50, 0), 28);
         due("all of them", x.shadow(0, 8, 0, 0), 1);
@@ -542,6 +571,10 @@ public final class PromisesTest {
         x.week(499);
         due("499 and 100", x.stops(), 0);
         PostedAsks low = new PostedAsks();
+        PostedAsks half = new PostedAsks();
+        half.week(400);
+        half.week(500);
+        due("500 is with more", half.stops(), 1);
         low.week(399);
         low.week(499);
         low.week(399);
@@ -598,6 +631,7 @@ public final class PromisesTest {
         due("24 of none", x.wider(24), NONE);
         x.house(0, 0, 1000);
         x.house(500, 5, 530);
+        due("the least of two", x.wider(1), 25);
         x.house(500, 50, 480);
         x.house(500, 5, 470);
         due("0", x.wider(0), 0);
@@ -706,6 +740,13 @@ public final class PromisesTest {
         due("no cards cost nothing", off.best(0, 0), 0);
         due("and tell nothing", off.best(0, 1), 101);
         due("1 drawn is better", off.best(5, 0), 1);
+        PostedAsks alone = settled(2, 0, 1);
+        due("one person is a land", alone.best(5, 0), 1);
+        due("drawn without error", alone.best(5, 1), 0);
+        settle(alone, 3, 0, 5, 0, 0, 5);
+        due("1 is the least N", alone.best(9999, 0), 1);
+        settle(alone, 0, 0, 0, 0, 0, 0, 0, 9, 9);
+        due("the lands' greatest error", alone.best(9999, 1), 50);
     }
 
     private static void cost() {
