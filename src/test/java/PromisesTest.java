@@ -64,9 +64,16 @@ public final class PromisesTest {
     }
 
     private static void typeText(PostedAsks x, String text) {
-        int before = x.count(4);
-        for (int i = 0; i < text.length(); i++) {
-            due("type", x.type(text.charAt(i), 1), before + i + 1);
+        // Eight bytes a call: an object is good for 512 calls.
+        int length = x.count(4);
+        for (int at = 0; at < text.length(); at += 8) {
+            int n = Math.min(8, text.length() - at);
+            long v = 0;
+            for (int i = 0; i < n; i++) {
+                v = v << 8 | text.charAt(at + i);
+            }
+            length += n;
+            due("type", x.type(v, n), length);
         }
     }
 
@@ -250,6 +257,12 @@ public final class PromisesTest {
         due("no FINDS", x.count(1), 0);
         due("long", habitOf(x, times(" ", 292) + "all xxx;"), 1);
         due("nothing typed", x.habit(), 0);
+        due("a long word", habitOf(x, "allxyz"), -10);
+        due("what was cleared is not read", habitOf(x, "all"), -13);
+        due("a long number", habitOf(x, "find rly 1234"), -19);
+        due("nor its digits", habitOf(x, "find rly 1"), -20);
+        due("a word up to the last byte", habitOf(x, times(" ", 297) + "all"), -310);
+        due("a number up to the last byte", habitOf(x, times(" ", 290) + "find rly 7"), -310);
     }
 
     private static void fault(String text, int place) {
