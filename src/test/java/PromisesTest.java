@@ -1,11 +1,5 @@
 /** Each promise of the document, with answers worked out by hand: ordinary inputs, edges, wrong inputs. */
-public final class PromisesTest {
-    private static final long NO = PostedAsks.NO;
-    private static final int BAD = -1, STATE = -2, FULL = -3, NONE = -9;
-    private static int checks = 0;
-    private static int wrong = 0;
-    private static String promise = "";
-
+public final class PromisesTest extends Checks {
     public static void main(String[] args) {
         newObject();
         land();
@@ -36,63 +30,11 @@ public final class PromisesTest {
         begin();
         count();
         trace();
-        System.out.println("PromisesTest: " + checks + " checks, " + wrong + " wrong");
-        if (wrong != 0) {
-            System.exit(1);
-        }
-    }
-
-    private static void due(String what, long got, long want) {
-        checks++;
-        if (got != want) {
-            wrong++;
-            System.out.println(promise + ": " + what + " answered " + got + ", due is " + want);
-        }
-    }
-
-    /** An object with these counts of groups 0 .. 7 in a land. */
-    private static PostedAsks settled(int land, int... counts) {
-        PostedAsks x = new PostedAsks();
-        settle(x, land, counts);
-        return x;
-    }
-
-    private static void settle(PostedAsks x, int land, int... counts) {
-        for (int group = 0; group < counts.length; group++) {
-            due("land", x.land(land, group, counts[group]), 0);
-        }
-    }
-
-    private static void typeText(PostedAsks x, String text) {
-        // Eight bytes a call: an object is good for 512 calls.
-        int length = x.count(4);
-        for (int at = 0; at < text.length(); at += 8) {
-            int n = Math.min(8, text.length() - at);
-            long v = 0;
-            for (int i = 0; i < n; i++) {
-                v = v << 8 | text.charAt(at + i);
-            }
-            length += n;
-            due("type", x.type(v, n), length);
-        }
-    }
-
-    private static int habitOf(PostedAsks x, String text) {
-        x.clear();
-        typeText(x, text);
-        return x.habit();
-    }
-
-    private static String times(String text, int n) {
-        StringBuilder all = new StringBuilder();
-        for (int i = 0; i < n; i++) {
-            all.append(text);
-        }
-        return all.toString();
+        end("PromisesTest");
     }
 
     private static void newObject() {
-        promise = "1 a new object";
+        about("1 a new object");
         PostedAsks x = new PostedAsks();
         for (int what = 0; what < 5; what++) {
             due("count " + what, x.count(what), 0);
@@ -116,7 +58,7 @@ public final class PromisesTest {
     }
 
     private static void land() {
-        promise = "2 land";
+        about("2 land");
         PostedAsks x = new PostedAsks();
         due("first", x.land(0, 0, 50), 0);
         due("one more", x.land(0, 7, 1), FULL);
@@ -138,7 +80,7 @@ public final class PromisesTest {
     }
 
     private static void rate() {
-        promise = "3 rate";
+        about("3 rate");
         PostedAsks x = new PostedAsks();
         due("first", x.rate(0, 0), 100);
         due("second", x.rate(0, 100), 0);
@@ -151,7 +93,7 @@ public final class PromisesTest {
     }
 
     private static void people() {
-        promise = "4 people";
+        about("4 people");
         PostedAsks x = settled(2, 1, 2, 3, 4, 5, 6, 7, 8);
         int[] want = {36, 20, 26, 14, 22, 12};
         for (int what = 0; what < 6; what++) {
@@ -165,7 +107,7 @@ public final class PromisesTest {
     }
 
     private static void posted() {
-        promise = "5 posted";
+        about("5 posted");
         PostedAsks x = settled(0, 9, 9, 0, 0, 4, 6, 3, 7);
         due("BACK", x.posted(0, 0), 20);
         due("yes", x.posted(0, 1), 13);
@@ -207,7 +149,7 @@ public final class PromisesTest {
     }
 
     private static void type() {
-        promise = "6 type";
+        about("6 type");
         PostedAsks x = new PostedAsks();
         due("n 0", x.type(1, 0), BAD);
         due("n 9", x.type(1, 9), BAD);
@@ -229,7 +171,7 @@ public final class PromisesTest {
     }
 
     private static void clear() {
-        promise = "7 clear";
+        about("7 clear");
         PostedAsks x = new PostedAsks();
         due("empty", x.clear(), 0);
         due("typed", x.type(0, 5), 5);
@@ -239,7 +181,7 @@ public final class PromisesTest {
     }
 
     private static void habit() {
-        promise = "8 habit";
+        about("8 habit");
         PostedAsks x = new PostedAsks();
         due("one", habitOf(x, "find rly 1;"), 1);
         due("empty then", x.count(4), 0);
@@ -274,7 +216,7 @@ public final class PromisesTest {
     }
 
     private static void habitFaults() {
-        promise = "8 habit, FAULT";
+        about("8 habit, FAULT");
         fault(";", 0);
         fault("  5", 2);
         fault("rly", 0);
@@ -335,7 +277,7 @@ public final class PromisesTest {
     }
 
     private static void found() {
-        promise = "9 found";
+        about("9 found");
         PostedAsks x = settled(0, 5, 5, 5, 5, 5, 5, 5, 5);
         due("poor first", x.found(0, 7, 0, 0), 5);
         due("then the next", x.found(0, 7, 0, 1), 2);
@@ -374,7 +316,7 @@ public final class PromisesTest {
     }
 
     private static void weighed() {
-        promise = "10 weighed";
+        about("10 weighed");
         PostedAsks x = settled(1, 3, 3, 6, 2);
         due("habit", habitOf(x, "find pxy 1; all rxy;"), 2);
         // poor: 1 yes of 2, 6 of 14; rich: 2 yes of 3, 8 of 14: 3/14 + 16/42 = 25/42
@@ -403,7 +345,7 @@ public final class PromisesTest {
     }
 
     private static void mends() {
-        promise = "11 mends";
+        about("11 mends");
         PostedAsks x = settled(0, 10, 0, 0, 10);
         due("half and half", x.mends(0, 5, 5), 0);
         due("too many rich", x.mends(0, 1, 9), 1);
@@ -433,7 +375,7 @@ public final class PromisesTest {
     }
 
     private static void ways() {
-        promise = "12 ways";
+        about("12 ways");
         PostedAsks x = new PostedAsks();
         due("one of three", x.ways(3, 1, 1, 33, 0), 0);
         due("a third away", x.ways(3, 1, 1, 34, 0), 2);
@@ -459,7 +401,7 @@ public final class PromisesTest {
     }
 
     private static void few() {
-        promise = "13 few";
+        about("13 few");
         PostedAsks x = new PostedAsks();
         due("nobody of yes", x.few(50, 0, 0, 100), 1);
         due("half, just", x.few(2, 1, 0, 1), 2);
@@ -481,7 +423,7 @@ public final class PromisesTest {
     }
 
     private static void may() {
-        promise = "14 may";
+        about("14 may");
         PostedAsks x = new PostedAsks();
         // 1 of 2 drawn of 3: c = 1 in 2 ways, c = 2 in 2 ways
         due("of several the least", x.may(3, 2, 1, 0), 1);
@@ -509,7 +451,7 @@ public final class PromisesTest {
     }
 
     private static void shadow() {
-        promise = "15 shadow";
+        about("15 shadow");
         PostedAsks x = settled(0, 20, 0, 0, 0, 4, 8);
         x.rate(5, 50);
         // 8 are back, 4 of yes
@@ -530,7 +472,7 @@ public final class PromisesTest {
     }
 
     private static void week() {
-        promise = "16 week";
+        about("16 week");
         PostedAsks x = new PostedAsks();
         due("-1", x.week(-1), BAD);
         due("1001", x.week(1001), BAD);
@@ -543,7 +485,7 @@ public final class PromisesTest {
     }
 
     private static void turn() {
-        promise = "17 turn";
+        about("17 turn");
         PostedAsks x = new PostedAsks();
         due("no weeks", x.turn(1, 0), NONE);
         x.week(100);
@@ -570,7 +512,7 @@ public final class PromisesTest {
     }
 
     private static void stops() {
-        promise = "18 stops";
+        about("18 stops");
         PostedAsks x = new PostedAsks();
         due("no weeks", x.stops(), 0);
         x.week(600);
@@ -604,7 +546,7 @@ public final class PromisesTest {
     }
 
     private static void house() {
-        promise = "19 house";
+        about("19 house");
         PostedAsks x = new PostedAsks();
         due("told -1", x.house(-1, 0, 0), BAD);
         due("told 1001", x.house(1001, 0, 0), BAD);
@@ -622,7 +564,7 @@ public final class PromisesTest {
     }
 
     private static void held() {
-        promise = "20 held";
+        about("20 held");
         PostedAsks x = new PostedAsks();
         x.house(500, 10, 510);
         x.house(500, 10, 489);
@@ -637,7 +579,7 @@ public final class PromisesTest {
     }
 
     private static void wider() {
-        promise = "21 wider";
+        about("21 wider");
         PostedAsks x = new PostedAsks();
         due("none needed", x.wider(0), 0);
         due("no rows", x.wider(1), NONE);
@@ -658,7 +600,7 @@ public final class PromisesTest {
     }
 
     private static void price() {
-        promise = "22 price";
+        about("22 price");
         PostedAsks x = new PostedAsks();
         due("P", x.price(0, 0), 1);
         due("P 99", x.price(0, 99), 0);
@@ -680,7 +622,7 @@ public final class PromisesTest {
     }
 
     private static void error() {
-        promise = "23 error";
+        about("23 error");
         PostedAsks x = settled(0, 2, 0, 0, 0, 0, 1);
         // SHARE 1, TRUTH a third
         due("66.67 up", x.error(0, 0), 67);
@@ -709,7 +651,7 @@ public final class PromisesTest {
     }
 
     private static void best() {
-        promise = "24 best";
+        about("24 best");
         PostedAsks x = new PostedAsks();
         due("nobody", x.best(5, 0), STATE);
         due("BAD ahead of STATE", x.best(5, 2), BAD);
@@ -763,7 +705,7 @@ public final class PromisesTest {
     }
 
     private static void cost() {
-        promise = "25 cost";
+        about("25 cost");
         PostedAsks x = settled(0, 4, 0, 0, 1, 3, 0, 0, 3);
         due("finds", habitOf(x, "all xxx; all rxx; find xxx 3;"), 3);
         x.week(1);
@@ -789,7 +731,7 @@ public final class PromisesTest {
     }
 
     private static void begin() {
-        promise = "26 begin";
+        about("26 begin");
         PostedAsks x = settled(0, 1, 2, 3, 4, 5, 6, 7, 8);
         settle(x, 3, 4);
         x.rate(5, 50);
@@ -816,7 +758,7 @@ public final class PromisesTest {
     }
 
     private static void count() {
-        promise = "27 count";
+        about("27 count");
         PostedAsks x = settled(0, 1, 2);
         settle(x, 1, 50);
         due("finds", habitOf(x, "all xxx;all xxx;"), 2);
@@ -834,7 +776,7 @@ public final class PromisesTest {
     }
 
     private static void trace() {
-        promise = "28 trace";
+        about("28 trace");
         long[] want = {1, 11, 101, 1001, 11001, 100001, 1000011};
         for (int kind = 0; kind < 7; kind++) {
             PostedAsks x = settled(0, 1, 0, 0, 0, 1);
